@@ -1,3 +1,4 @@
+import java.util.Arrays;
 import java.util.NoSuchElementException;
 
 /** Mail brought to sea by gulls that each know but one boat; ../shared/DOC.md has the promises. */
@@ -1817,48 +1818,70 @@ public final class OneGullToABoat {
     /** The best way to share new gulls among boats. */
     private static final class Training {
         private static final int WHOLE = 10000;
+        private static final int MOST_ROWS = 2000;
 
         final int[] best = new int[MOST_BOATS];
         int chance;
         private final int[] tried = new int[MOST_BOATS];
+        private final long[] all = new long[MOST_GULLS + 1];
+        private final long[] dead = new long[MOST_GULLS + 1];
         private int boatCount;
-        private int dies;
 
+        /** Tries rows from the least on, so that of as good ones the least stays. */
         void find(int boats, int gulls, int livesByTenths) {
-            boatCount = boats;
-            dies = 10 - livesByTenths;
+            boatCount = Math.min(boats, MOST_BOATS);
+            reckonPowers(10 - livesByTenths);
             chance = NONE;
-            share(0, gulls, WHOLE);
-        }
-
-        /** Tries rows from the least on, so the first of as good ones stays; the depth is the boat's number. */
-        private void share(int boat, int left, int soFar) {
-            if (boat >= MOST_BOATS || soFar <= chance) {
-                return;
+            Arrays.fill(tried, 0);
+            boolean more = boatCount > 0;
+            if (more) {
+                tried[boatCount - 1] = gulls;
             }
-            if (boat >= boatCount - 1) {
-                tried[boat] = left;
-                int result = withBoat(soFar, left);
+            for (int i = 0; i < MOST_ROWS && more; i++) {
+                int result = chanceOfTried();
                 if (result > chance) {
                     chance = result;
                     System.arraycopy(tried, 0, best, 0, boatCount);
                 }
-                return;
-            }
-            for (int k = 0; k <= left; k++) {
-                tried[boat] = k;
-                share(boat + 1, left - k, withBoat(soFar, k));
+                more = goToNextRow();
             }
         }
 
-        private int withBoat(int soFar, int k) {
-            long all = 1;
-            long none = 1;
-            for (int i = 0; i < k; i++) {
-                all *= 10;
-                none *= dies;
+        private void reckonPowers(int diesByTenths) {
+            all[0] = 1;
+            dead[0] = 1;
+            for (int k = 1; k <= MOST_GULLS; k++) {
+                all[k] = 10 * all[k - 1];
+                dead[k] = diesByTenths * dead[k - 1];
             }
-            return all < 1 ? 0 : (int) (soFar * (all - none) / all);
+        }
+
+        private int chanceOfTried() {
+            long result = WHOLE;
+            for (int b = 0; b < boatCount; b++) {
+                int k = tried[b];
+                if (k < 0 || k > MOST_GULLS || all[k] < 1) {
+                    return 0;
+                }
+                result = result * (all[k] - dead[k]) / all[k];
+            }
+            return (int) result;
+        }
+
+        /** The least row above the tried one: one gull more ahead of the last that has some, all others at the end. */
+        private boolean goToNextRow() {
+            int from = boatCount - 1;
+            while (from > 0 && tried[from] == 0) {
+                from--;
+            }
+            if (from < 1) {
+                return false;
+            }
+            int rest = tried[from] - 1;
+            tried[from] = 0;
+            tried[from - 1]++;
+            tried[boatCount - 1] = rest;
+            return true;
         }
     }
 
