@@ -1337,7 +1337,6 @@ public final class OneGullToABoat {
             came = 0;
             decked = 0;
             died = 0;
-            landing = NONE;
         }
 
         boolean hasBoat(int b) {

@@ -56,12 +56,18 @@ public final class AheadTest {
     c.is("23: rests first", x.comes(0), -2);
     x.weather(1, 1);
     c.is("23: in a storm", x.comes(0), 3);
-    // a boat that sails up and down: the gull stays ashore, and never dies nor comes
     OneGullToABoat y = Check.sea("15,15-0", "a1");
     y.send(0, -1);
     y.sheet(2, 8, 9, 0);
     y.half();
     c.is("23: dead", y.comes(0), -1);
+    // the boat sails on, and wind and half hours go into the rule
+    OneGullToABoat w = Check.sea("5,0e0", "a1");
+    Check.rule(w, "w+s");
+    w.weather(0, 2);
+    w.send(0, -1);
+    // boat 6 7 8 9, gull 2 5 8: met in the third
+    c.is("23: a boat that sails", w.comes(0), 3);
     // hungry: another boat's chum
     OneGullToABoat z = Check.sea("15,0-0;7,3-1", "a1");
     Check.rule(z, "1");
@@ -148,6 +154,13 @@ public final class AheadTest {
     x.paint(0, 3);
     c.is("27: ashore", x.heads(0), 4);
     c.row("27: ashore", x, -1, 4);
+    OneGullToABoat y = Check.sea("4,3-0", "a6");
+    Check.rule(y, "p");
+    y.send(0, -1);
+    y.half();
+    y.paint(0, 3);
+    c.is("27: ashore by x and y", y.heads(0), 6);
+    c.row("27: ashore by x and y", y, -1, 6);
     c.is("27: none such", x.heads(2), -1);
     c.is("27: -1", x.heads(-1), -1);
     Check.rule(x, "0");
@@ -213,6 +226,8 @@ public final class AheadTest {
     c.is("30: -1", x.spreads(-1, 3), -1);
     c.is("30: shout 16", x.spreads(1, 16), -1);
     c.is("30: shout -1", x.spreads(1, -1), -1);
+    OneGullToABoat z = Check.sea("14,8-0;9,1se1;4,3s2;4,8w3;7,6s4;2,6ne5", "a1");
+    c.is("30: in the last of these", z.spreads(8, 2), 60);
     OneGullToABoat y = Check.sea("0,0-0;3,0-1", "a1");
     c.is("30: never", y.spreads(1, 2), -2);
   }
@@ -226,6 +241,9 @@ public final class AheadTest {
     c.row("31: equal", x, 6);
     c.is("31: shout 16", x.teller(16), -1);
     c.is("31: shout -1", x.teller(-1), -1);
+    OneGullToABoat z = Check.sea("8,12w0;10,14-1;5,9-2;9,15n3;0,14sw4;12,10ne5", "a1");
+    c.is("31: late", z.teller(1), 1);
+    c.row("31: late", z, 59);
     OneGullToABoat y = Check.sea("0,0-0;3,0-1", "a1");
     c.is("31: by none", y.teller(2), -2);
     c.is("31: at once", y.teller(3), 0);
@@ -261,7 +279,17 @@ public final class AheadTest {
     c.is("32: told too late", y.order(2, 5), -2);
     c.is("32: told when it is back", y.order(2, 60), 1);
     c.row("32: told when it is back", y, 1, 12);
-    c.is("32: no boats", new OneGullToABoat().order(3, 1), 0);
+    OneGullToABoat none = new OneGullToABoat();
+    c.is("32: no boats", none.order(3, 1), 0);
+    c.row("32: no boats", none, 0, 0);
+    // gulls 0 and 1 come in 3 and 2, when the boats are apart; gull 2 in 1, when they are not
+    OneGullToABoat z = Check.sea("4,0-0;5,0e1", "a2;b4;a5");
+    c.is("32: fewer behind more", z.order(2, 10), 1);
+    c.row("32: fewer behind more", z, 4, 1);
+    // the boat sails on: 6,0 then 7,0, gull 4,0 then 7,0
+    OneGullToABoat v = Check.sea("5,0e0", "a5");
+    c.is("32: a boat that sails", v.order(0, 60), 1);
+    c.row("32: a boat that sails", v, 1, 2);
   }
 
   private static void thief() {
@@ -323,6 +351,13 @@ public final class AheadTest {
     // east by 1, from x 0 on: cells 1 .. 9 of row 0 and so on, 9 cells away at most
     c.is("35: east", x.fits(3, 1), 9 + 9 + 8 + 7 + 6 + 5 + 4 + 3 + 2 + 1 - 9);
     c.row("35: east", x, 1, 16 * 8 + 1);
+    OneGullToABoat y = Check.sea("3,3s0;3,3n0;3,3sw0", "a2;b2;c2");
+    // not met a half hour ago, with the boat 1 nearer (3 at least): 4 away now, y 2 at least
+    c.is("35: south", y.fits(0, 2), 3);
+    c.row("35: south", y, 16 * 2 + 2, 16 * 4);
+    // with the boat 1 farther then (3 at least): 2 to 4 away now
+    c.is("35: north", y.fits(1, 2), 3 + 4 + 5);
+    c.row("35: north", y, 2, 16 * 4);
     c.is("35: far", x.fits(0, 60), 0);
     c.is("35: none such", x.fits(4, 1), -1);
     c.is("35: -1", x.fits(-1, 1), -1);

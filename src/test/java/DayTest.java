@@ -29,6 +29,14 @@ public final class DayTest {
     c.is("12: basket", x.count(8), 1023);
     x.undo();
     c.is("12: nine again", x.write(0), 9);
+    OneGullToABoat y = Check.sea("4,3-0;5,5-0", "a9");
+    y.keep(0);
+    y.write(0);
+    y.send(0, 0);
+    y.half();
+    y.again(0);
+    y.write(1);
+    c.letter(y, 0, 1, 0, -1);
   }
 
   private static void send() {
@@ -173,6 +181,22 @@ public final class DayTest {
     c.row("18: ashore", v, 0, 0, 0);
     c.gull(v, 0, 0, 0, 4, 5, 0, 0, 0, -1);
     c.letter(v, 0, 0, 0, -1);
+    // a cell short of ashore is not there
+    OneGullToABoat u = Check.sea("4,0-0;0,4-1", "a3;b3");
+    Check.rule(u, "p");
+    u.send(0, -1);
+    u.send(1, -1);
+    u.half();
+    c.gull(u, 0, 0, 0, 3, 1, 3, 0, 1, -1);
+    c.gull(u, 1, 1, 1, 3, 1, 0, 3, 1, -1);
+    u.paint(0, 5);
+    u.paint(1, 5);
+    Check.rule(u, "2");
+    u.half();
+    c.gull(u, 0, 0, 0, 3, 2, 1, 0, 1, -1);
+    c.gull(u, 1, 1, 1, 3, 2, 0, 1, 1, -1);
+    u.half();
+    c.is("18: ashore", u.count(6), 0);
   }
 
   private static void deaths() {
@@ -254,6 +278,9 @@ public final class DayTest {
   private static void dayFaults() {
     OneGullToABoat x = Check.sea("4,0-0", "a3");
     x.half();
+    String[] colons = {"h:", "s:0", "s0:", "f:", "o:", "pa:"};
+    int[] there = {1, 1, 2, 1, 1, 2};
+    for (int i = 0; i < colons.length; i++) c.is("20: " + colons[i], Check.day(x, colons[i]), -1 - there[i]);
     String[] bad = {"x", "w", "wg", "s", "sa", "s0", "s0a", "s0-0", "p", "pg", "pa", "pa6", "c", "cg", "f", "fa", "o",
         "oa", "h0", "h12", "h;", ";", "h;;h", "hh", "wa1", "h h"};
     int[] at = {0, 1, 1, 1, 1, 2, 2, 3, 1, 1, 2, 2, 1, 1, 1, 1, 1, 1, 1, 2, 2, 0, 2, 1, 2, 1};
@@ -335,6 +362,11 @@ public final class DayTest {
     x.undo();
     c.is("21: wind stays", x.count(4), 6);
     c.is("21: storm stays", x.count(5), 0);
+    x.halves(30);
+    Check.day(x, "h3");
+    x.undo();
+    c.is("21: as ahead of the day", x.count(3), 33);
+    x.undo();
     x.chum(0, 0);
     c.is("21: what changed nothing was done too", x.undo(), 0);
   }

@@ -67,6 +67,9 @@ public final class FleetTest {
         "1,1en0", "1,1-e0", "1,1-00", "1,1-0;", "123,1-0", ";", "1,1-0;;", "1,1ns0", "1;1-0", ",1-0"};
     int[] at = {0, 1, 1, 1, 2, 3, 3, 3, 4, 4, 5, 4, 4, 4, 5, 6, 2, 0, 6, 4, 1, 0};
     for (int i = 0; i < bad.length; i++) c.is("4: " + bad[i], Check.fleet(x, bad[i]), -1 - at[i]);
+    String[] strange = {":,1-0", "1:,1-0", "1,:-0", "1,150", "1,1-:", "/", "1,1e", "1,1n;"};
+    int[] there = {0, 1, 2, 4, 4, 0, 4, 4};
+    for (int i = 0; i < strange.length; i++) c.is("4: " + strange[i], Check.fleet(x, strange[i]), -1 - there[i]);
     c.is("4: nothing came", x.count(0), 0);
     c.is("4: a line can't, none comes", Check.fleet(x, "1,1-0;2,2x0"), -10);
     c.is("4: nothing came", x.count(0), 0);
@@ -84,6 +87,16 @@ public final class FleetTest {
     c.is("4: full", Check.fleet(x, "1,1-0"), -1);
     c.is("4: full, a bad sign", Check.fleet(x, "x"), -1);
     c.is("4: full, empty", Check.fleet(x, ""), 0);
+    OneGullToABoat z = new OneGullToABoat();
+    Check.fleet(z, "9,8nw5x");
+    Check.fleet(z, "7,6-0");
+    c.boat(z, 0, 7, 6, 0, 0, 0, 0, 0);
+    Check.fleet(z, "9,8nw5x");
+    Check.fleet(z, "7,6e0");
+    c.boat(z, 1, 7, 6, 1, 0, 0, 0, 0);
+    Check.fleet(z, "9,8nw5x");
+    Check.fleet(z, "7,6s0");
+    c.boat(z, 2, 7, 6, 0, 1, 0, 0, 0);
     OneGullToABoat y = new OneGullToABoat();
     c.is("4: seventh line at its end", Check.fleet(y, "1,1-0;1,1-0;1,1-0;1,1-0;1,1-0;1,1-0;"), -37);
     StringBuilder s = new StringBuilder("1,1-0");
@@ -99,6 +112,9 @@ public final class FleetTest {
     String[] bad = {"x", "c1", "a", "a0", "a12", "a1;", "a1;c1", "1", ";", "A1", "a1,b1"};
     int[] at = {0, 0, 1, 1, 2, 3, 3, 0, 0, 0, 2};
     for (int i = 0; i < bad.length; i++) c.is("5: " + bad[i], Check.gulls(x, bad[i]), -1 - at[i]);
+    c.is("5: a:", Check.gulls(x, "a:"), -2);
+    c.is("5: the ninth at its end", Check.gulls(x, "a1;a1;a1;a1;a1;a1;a1;a1;"), -25);
+    c.is("5: the ninth", Check.gulls(x, "a1;a1;a1;a1;a1;a1;a1;a1;a1"), -25);
     c.is("5: none came", x.count(1), 0);
     c.is("5: empty", Check.gulls(x, ""), 0);
     c.is("5: one", Check.gulls(x, "b9"), 1);
@@ -118,6 +134,10 @@ public final class FleetTest {
         "pp", "(p<h<d)", "(p))", "--", "p <h", "+p", "12a"};
     int[] at = {0, 2, 3, 3, 2, 4, 3, 0, 1, 1, 1, 0, 2, 1, 1, 4, 3, 2, 1, 0, 2};
     for (int i = 0; i < bad.length; i++) c.is("6: " + bad[i], Check.rule(x, bad[i]), -1 - at[i]);
+    c.is("6: :", Check.rule(x, ":"), -1);
+    c.is("6: 1:", Check.rule(x, "1:"), -2);
+    c.is("6: 12:", Check.rule(x, "12:"), -3);
+    c.is("6: p/:", Check.rule(x, "p/:"), -3);
     String forty = "1+1+1+1+1+1+1+1+1+1+1+1+1+1+1+1+1+1+1+10";
     c.is("6: 40 signs", Check.rule(x, forty), 0);
     c.is("6: 41 signs", Check.rule(x, forty + "1"), -41);
@@ -149,6 +169,9 @@ public final class FleetTest {
     x.send(0, -1);
     reckons(x, "7", 7);
     reckons(x, "007", 7);
+    reckons(x, "12", 12);
+    reckons(x, "129/10", 12);
+    reckons(x, "3=4", 0);
     reckons(x, "2+3*4", 14);
     reckons(x, "(2+3)*4", 20);
     reckons(x, "20-3-4", 13);

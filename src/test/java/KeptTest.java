@@ -49,6 +49,8 @@ public final class KeptTest {
     // 5100, then 3350 (.7), then 1708; 5100, 2601, 1708 (.857): all alike, so the least row
     c.is("38: cut at each", x.train(7, 3), 1708);
     c.row("38: cut at each", x, 2, 2, 3);
+    c.is("38: n 1", x.train(1, 5), 0);
+    c.row("38: n 1", x, 0, 0, 1);
     c.is("38: n 0", x.train(0, 5), -1);
     c.is("38: n 9", x.train(9, 5), -1);
     c.is("38: p -1", x.train(3, -1), -1);
@@ -78,6 +80,7 @@ public final class KeptTest {
     c.is("39: none", Check.codes(x, "", 1), -1);
     c.is("39: x", Check.codes(x, "x", 1), -1);
     c.is("39: 1x", Check.codes(x, "1x", 1), -2);
+    c.is("39: :", Check.codes(x, ":", 1), -1);
     c.is("39: 13", Check.codes(x, "1234567890123", 1), -13);
     c.is("39: 13th no digit", Check.codes(x, "123456789012x", 1), -13);
     c.is("39: bad ahead of it", Check.codes(x, "12345678901x2", 1), -12);
@@ -154,6 +157,8 @@ public final class KeptTest {
     int[] of = new int[3 * n];
     for (int i = 0; i < of.length; i++) of[i] = i % 3 == 0 ? 10 : i % 3 == 1 ? p : 8;
     int[] d = draws(seed, of);
+    x.delivers(60);
+    x.season(seed + 1, 60, 1);
     int came = x.season(seed, n, p);
     int died = x.row(0);
     int decks = x.row(1);

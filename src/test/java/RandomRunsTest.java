@@ -183,6 +183,26 @@ public final class RandomRunsTest {
     else both(name);
   }
 
+  private void tellFull() {
+    StringBuilder s = new StringBuilder(line("fleet"));
+    for (int i = 1; i < 6; i++) s.append(';').append(line("fleet"));
+    Check.tell(one, s.toString());
+    log.append("THE TEXT of both: ").append(s).append('\n');
+    for (int i = 0; i < s.length(); i += 4) {
+      int v = 0;
+      for (int k = 0; k < 4; k++) v = v << 8 | (i + k < s.length() ? s.charAt(i + k) : 0);
+      other.sign(v);
+    }
+    other.end(s.length());
+    both("fleet");
+    for (int i = 0; i < 8; i++) {
+      both("sign", ('a' + random.nextInt(6)) << 24 | of("123456789") << 16);
+      both("end", 2);
+      both("gulls");
+    }
+    for (int i = random.nextInt(11); i > 0; i--) both("write", random.nextInt(6));
+  }
+
   private void lookAtAll() {
     for (int i = -1; i <= 13; i++) both("count", i);
     for (int i = -1; i <= one.count(11); i++) both("row", i);
@@ -194,7 +214,10 @@ public final class RandomRunsTest {
 
   private void run(int calls) {
     int before = wrong;
-    if (random.nextInt(10) > 0) {
+    int start = random.nextInt(10);
+    if (start < 4) {
+      tellFull();
+    } else if (start < 9) {
       tell("fleet");
       tell("fleet");
       tell("gulls");
