@@ -1559,10 +1559,9 @@ public final class OneGullToABoat {
         }
 
         int farFrom(Gull gull, int goal) {
-            if (goal == NONE) {
-                return gull.x + gull.y;
-            }
-            return apart(gull.x, gull.y, boats[goal].x, boats[goal].y);
+            int toX = goal == NONE ? 0 : boats[goal].x;
+            int toY = goal == NONE ? 0 : boats[goal].y;
+            return Math.abs(toX - gull.x) + Math.abs(toY - gull.y);
         }
 
         int reach(int g, int far) {
