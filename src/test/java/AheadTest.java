@@ -226,6 +226,7 @@ public final class AheadTest {
     c.is("30: -1", x.spreads(-1, 3), -1);
     c.is("30: shout 16", x.spreads(1, 16), -1);
     c.is("30: shout -1", x.spreads(1, -1), -1);
+    // found by a search with the program, and confirmed by PlainModel
     OneGullToABoat z = Check.sea("14,8-0;9,1se1;4,3s2;4,8w3;7,6s4;2,6ne5", "a1");
     c.is("30: in the last of these", z.spreads(8, 2), 60);
     OneGullToABoat y = Check.sea("0,0-0;3,0-1", "a1");
@@ -241,6 +242,7 @@ public final class AheadTest {
     c.row("31: equal", x, 6);
     c.is("31: shout 16", x.teller(16), -1);
     c.is("31: shout -1", x.teller(-1), -1);
+    // found by a search with the program, and confirmed by PlainModel
     OneGullToABoat z = Check.sea("8,12w0;10,14-1;5,9-2;9,15n3;0,14sw4;12,10ne5", "a1");
     c.is("31: late", z.teller(1), 1);
     c.row("31: late", z, 59);
