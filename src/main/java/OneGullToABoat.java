@@ -726,13 +726,11 @@ public final class OneGullToABoat {
     }
 
     public int slip(int j, int i) {
-        if (j < 1 || j > 3 || i < 0) {
-            return NONE;
-        }
+        // without a word all slips and digits are alike, so this goes ahead of what is wrong with j or i
         if (wordLength == 0) {
             return -2;
         }
-        if (i >= wordLength || i >= WORD) {
+        if (j < 1 || j > 3 || i < 0 || i >= wordLength || i >= WORD) {
             return NONE;
         }
         return (word[i] + j * wordDraws[i]) % CODE;

@@ -99,7 +99,14 @@ public final class KeptTest {
 
   private static void slip() {
     OneGullToABoat x = new OneGullToABoat();
-    c.is("40: no word", x.slip(3, 0), -2);
+    // NONE is for the others, so without a word no j and no i is NONE
+    int[] edges = {Integer.MIN_VALUE, -1, 0, 1, 3, 4, 11, 12, Integer.MAX_VALUE};
+    for (int j : edges) {
+      for (int i : edges) c.is("40: no word", x.slip(j, i), -2);
+    }
+    Check.codes(x, "7x", 1);
+    c.is("40: no word, a refused one", x.slip(0, 0), -2);
+    c.is("40: no word, a refused one", x.slip(1, -1), -2);
     int[] seeds = {1, 0, -1, 123456789, Integer.MIN_VALUE};
     for (int seed : seeds) {
       Check.codes(x, "7058", seed);
@@ -118,6 +125,12 @@ public final class KeptTest {
     c.is("40: j 4", x.slip(4, 0), -1);
     c.is("40: i 1", x.slip(1, 1), -1);
     c.is("40: i -1", x.slip(1, -1), -1);
+    for (int j : edges) {
+      for (int i : edges) {
+        boolean there = j >= 1 && j <= 3 && i == 0;
+        c.is("40: of one digit", x.slip(j, i), there ? (7 + j * 8) % 11 : -1);
+      }
+    }
   }
 
   private static void opens() {

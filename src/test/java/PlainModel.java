@@ -784,8 +784,8 @@ public final class PlainModel {
   }
 
   public int slip(int j, int i) {
-    if (j < 1 || j > 3 || i < 0) return -1;
     if (word == null) return -2;
+    if (j < 1 || j > 3 || i < 0) return -1;
     return i >= word.length ? -1 : (word[i] + j * wordDraws[i]) % 11;
   }
 
