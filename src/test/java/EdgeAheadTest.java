@@ -27,12 +27,14 @@ public final class EdgeAheadTest {
     orderWhen();
     orderEmptyAndFull();
     orderWhich();
+    orderBySooner();
     orderLast();
     thiefWhen();
     thiefWhich();
     astrayEmptyAndFull();
     fitsNow();
     fitsWithinTheSea();
+    fitsEachCourse();
     fitsLeftAside();
     ring();
     c.end("EdgeAheadTest");
@@ -415,9 +417,9 @@ public final class EdgeAheadTest {
   }
 
   private static void shoutedWhen() {
-    OneGullToABoat x = Check.sea(LATE + "3s3", "a1");
     int[] when = {0, 30, 46, 60};
     for (int n = 0; n <= 60; n++) {
+      OneGullToABoat x = Check.sea(LATE + "3s3", "a1");
       int know = 0;
       int[] row = new int[4];
       for (int b = 0; b < 4; b++) {
@@ -427,6 +429,7 @@ public final class EdgeAheadTest {
       c.is("29: in " + n, x.shouted(1, 0, n), know);
       c.row("29: in " + n, x, row);
     }
+    OneGullToABoat x = Check.sea(LATE + "3s3", "a1");
     c.is("29: 61", x.shouted(1, 0, 61), -1);
     c.is("29: no boats", new OneGullToABoat().shouted(0, 0, 0), 0);
     c.is("29: no boats, one told", new OneGullToABoat().shouted(1, 0, 0), -1);
@@ -558,6 +561,20 @@ public final class EdgeAheadTest {
     y.chum(1, 1);
     c.is("32: one to b", y.order(0, 60), 2);
     c.row("32: one to b", y, 3, 3);
+  }
+
+  /**
+   * Gull 0 comes to a in 1, gull 1 to c in 5; b is at a in 3, at c in 10: it knows by the sooner one. By gull 0 alone
+   * all know in 10.
+   */
+  private static void orderBySooner() {
+    OneGullToABoat x = Check.sea("3,0-0;0,0e1;10,0-2", "a3;c2");
+    Check.rule(x, "p");
+    for (int n = 1; n <= 12; n++) {
+      c.is("32: by the sooner one, in " + n, x.order(0, n), n < 5 ? -2 : n < 10 ? 2 : 1);
+      if (n >= 5 && n < 10) c.row("32: by the sooner one, in " + n, x, 3, 5);
+      if (n >= 10) c.row("32: by one, in " + n, x, 1, 10);
+    }
   }
 
   /** Told in 1 where LATE is told now: all is as in LATE. */
@@ -739,6 +756,60 @@ public final class EdgeAheadTest {
       }
     }
     return cells;
+  }
+
+  /** From each cell at first: a boat that would be beyond a side now is on none of the cells. */
+  private static void fitsEachCourse() {
+    String[] courses = {"n", "e", "s", "w", "ne", "nw", "se", "sw"};
+    for (String course : courses) {
+      int dx = course.endsWith("e") ? 1 : course.endsWith("w") ? -1 : 0;
+      int dy = course.startsWith("n") ? -1 : course.startsWith("s") ? 1 : 0;
+      for (int pace = 1; pace <= 9; pace++) {
+        OneGullToABoat x = Check.sea("7,7" + course + "0", "a" + pace);
+        for (int n = 1; n <= 18; n++) {
+          boolean[] can = new boolean[256];
+          for (int from = 0; from < 256; from++) {
+            int toX = from % 16 + n * dx;
+            int toY = from / 16 + n * dy;
+            boolean atSea = toX >= 0 && toX <= 15 && toY >= 0 && toY <= 15;
+            if (atSea && metIn(from % 16, from / 16, dx, dy, pace) == n) can[16 * toY + toX] = true;
+          }
+          cells("35: " + course + ", pace " + pace + ", " + n, x, n, can);
+        }
+      }
+    }
+    // southwards PACE 8 meets in 2 what was at 0,14 and would be at 0,16 now: beyond THE SEA
+    OneGullToABoat y = Check.sea("7,7s0", "a8");
+    y.fits(0, 2);
+    c.is("35: beyond the sea", y.row(1) <= 255, true);
+  }
+
+  private static void cells(String name, OneGullToABoat x, int n, boolean[] can) {
+    int cells = 0;
+    int least = -1;
+    int greatest = -1;
+    for (int i = 0; i < 256; i++) {
+      if (!can[i]) continue;
+      cells++;
+      if (least < 0) least = i;
+      greatest = i;
+    }
+    c.is(name, x.fits(0, n), cells);
+    c.row(name, x, least, greatest);
+  }
+
+  /** In which half hour a boat from x, y is met, cell by cell; 99: not in 20. */
+  private static int metIn(int x, int y, int dx, int dy, int pace) {
+    int gullX = 0;
+    int gullY = 0;
+    for (int t = 1; t <= 20; t++) {
+      for (int i = 0; i < pace; i++) {
+        if (gullX != x + t * dx) gullX += Integer.signum(x + t * dx - gullX);
+        else gullY += Integer.signum(y + t * dy - gullY);
+      }
+      if (gullX == x + t * dx && gullY == y + t * dy) return t;
+    }
+    return 99;
   }
 
   /** THE RULE and all but that BOAT left aside; the COURSE as it is now. */

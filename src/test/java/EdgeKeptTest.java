@@ -111,8 +111,9 @@ public final class EdgeKeptTest {
     c.is("38: 0", x.train(0, 10), -1);
     c.is("38: 9", x.train(9, 10), -1);
     OneGullToABoat none = new OneGullToABoat();
+    none.ring(0);
     for (int n = 1; n <= 8; n++) c.is("38: no boats", none.train(n, 5), -1);
-    c.row("38: no boats", none);
+    c.row("38: no boats, the row stays", none, 0);
     OneGullToABoat one = Check.sea("1,1-0", "a1;a1;a1");
     // a half lives on: 1 less a half to the n, cut
     int[] halfLive = {5000, 7500, 8750, 9375, 9687, 9843, 9921, 9960};
@@ -241,12 +242,15 @@ public final class EdgeKeptTest {
   }
 
   private static void opensAll() {
-    OneGullToABoat x = new OneGullToABoat();
     for (int a = 0; a <= 4; a++) {
       for (int b = 0; b <= 4; b++) {
-        for (int u = -1; u <= 11; u++) for (int v = -1; v <= 11; v++) opensOne(x, a, u, b, v);
+        for (int u = -1; u <= 11; u++) {
+          OneGullToABoat y = new OneGullToABoat();
+          for (int v = -1; v <= 11; v++) opensOne(y, a, u, b, v);
+        }
       }
     }
+    OneGullToABoat x = new OneGullToABoat();
     // what codes() told is opened by any two of its slips
     Check.codes(x, "3141592653", 2);
     String word = "3141592653";

@@ -148,6 +148,10 @@ public final class EdgeTextTest {
     reads("4:", EdgeTextTest::empty, Check::fleet, ":,1-0", -1);
     reads("4:", EdgeTextTest::empty, Check::fleet, "1/,1-0", -2);
     reads("4:", EdgeTextTest::empty, Check::fleet, "1:,1-0", -2);
+    reads("4:", EdgeTextTest::empty, Check::fleet, "0/,1-0", -2);
+    reads("4:", EdgeTextTest::empty, Check::fleet, "0:,1-0", -2);
+    reads("4:", EdgeTextTest::empty, Check::fleet, "1,0/-0", -4);
+    reads("4:", EdgeTextTest::empty, Check::fleet, "1,0:-0", -4);
     reads("4:", EdgeTextTest::empty, Check::fleet, "-1,1-0", -1);
     for (char hull = '0' - 1; hull <= '9' + 1; hull++) {
       OneGullToABoat x = new OneGullToABoat();

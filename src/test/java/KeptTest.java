@@ -134,8 +134,8 @@ public final class KeptTest {
   }
 
   private static void opens() {
-    OneGullToABoat x = new OneGullToABoat();
     for (int digit = 0; digit <= 10; digit++) {
+      OneGullToABoat x = new OneGullToABoat();
       for (int d = 0; d <= 10; d++) {
         for (int a = 1; a <= 3; a++) {
           int b = a % 3 + 1;
@@ -145,6 +145,7 @@ public final class KeptTest {
         }
       }
     }
+    OneGullToABoat x = new OneGullToABoat();
     c.is("41: alike", x.opens(1, 1, 1, 1), -1);
     c.is("41: a 0", x.opens(0, 1, 1, 1), -1);
     c.is("41: a 4", x.opens(4, 1, 1, 1), -1);

@@ -7,7 +7,7 @@ public final class RandomRunsTest {
   private static final String[] QUESTIONS = {"where", "comes", "would", "delivers", "due", "heads", "nearest",
       "shouted", "spreads", "teller", "order", "thief", "astray", "fits", "ring", "lonely", "train", "slip",
       "opens", "season", "count", "row"};
-  private static final String[] ACTS = {"write", "send", "send", "paint", "show", "chum", "feed", "half", "half",
+  private static final String[] ACTS = {"write", "send", "send", "send", "send", "paint", "show", "chum", "feed", "half", "half",
       "halves", "undo", "weather", "sheet", "keep", "again"};
   private static final String[] TEXTS = {"day", "day", "rule", "fleet", "gulls", "codes"};
 
@@ -18,6 +18,7 @@ public final class RandomRunsTest {
   private final OneGullToABoat one = new OneGullToABoat();
   private final PlainModel other = new PlainModel();
   private final StringBuilder log = new StringBuilder();
+  private int calls;
 
   private RandomRunsTest(long seed) { random = new Random(seed); }
 
@@ -36,7 +37,9 @@ public final class RandomRunsTest {
     }
   }
 
+  /** The 513th call and those behind it are free, so they are not made. */
   private String both(String name, Object... args) {
+    if (++calls > 512) return "";
     String a = answer(one, name, args);
     String b = answer(other, name, args);
     log.append(name).append(java.util.Arrays.toString(args)).append(" -> ").append(a).append('\n');
@@ -57,9 +60,9 @@ public final class RandomRunsTest {
   }
 
   private int number(String name, int i) {
-    int boats = one.count(0);
-    int gulls = one.count(1);
-    int letters = one.count(2);
+    int boats = other.count(0);
+    int gulls = other.count(1);
+    int letters = other.count(2);
     switch (name) {
       case "write": case "due": return around(0, Math.max(0, boats - 1));
       case "paint": return i == 0 ? around(0, Math.max(0, boats - 1)) : around(0, 5);
@@ -127,10 +130,10 @@ public final class RandomRunsTest {
         return random.nextInt(16) + "," + random.nextInt(16)
             + new String[] {"-", "n", "e", "s", "w", "ne", "nw", "se", "sw"}[random.nextInt(9)] + of("012345");
       case "gulls":
-        return "" + (char) ('a' + random.nextInt(Math.max(1, one.count(0)))) + of("123456789");
+        return "" + (char) ('a' + random.nextInt(Math.max(1, other.count(0)))) + of("123456789");
       case "day":
-        char a = (char) ('a' + random.nextInt(random.nextInt(5) == 0 ? 6 : Math.max(1, one.count(0))));
-        int g = random.nextInt(random.nextInt(9) == 0 ? 10 : Math.max(1, one.count(1)));
+        char a = (char) ('a' + random.nextInt(random.nextInt(5) == 0 ? 6 : Math.max(1, other.count(0))));
+        int g = random.nextInt(random.nextInt(9) == 0 ? 10 : Math.max(1, other.count(1)));
         switch (random.nextInt(8)) {
           case 0: return "h" + of("123456789");
           case 1: return "h";
@@ -168,17 +171,21 @@ public final class RandomRunsTest {
     return s.length() > 80 ? s.substring(0, 80) : s.toString();
   }
 
-  private void tell(String name) {
-    String s = someText(name);
-    if (random.nextInt(9) > 0) both("end", 0);
+  private void signs(String s) {
+    log.append("THE TEXT: ").append(s).append('\n');
     for (int i = 0; i < s.length(); i += 4) {
       int v = 0;
       for (int k = 0; k < 4; k++) v = v << 8 | (i + k < s.length() ? s.charAt(i + k) : 0);
       both("sign", v);
     }
+  }
+
+  private void tell(String name) {
+    String s = someText(name);
+    if (random.nextInt(9) > 0) both("end", 0);
+    signs(s);
     if (random.nextInt(20) > 0) both("end", s.length());
     if (random.nextInt(30) == 0) both("end", around(0, 80));
-    log.append("THE TEXT: ").append(s).append('\n');
     if (name.equals("codes")) both(name, random.nextInt());
     else both(name);
   }
@@ -186,14 +193,8 @@ public final class RandomRunsTest {
   private void tellFull() {
     StringBuilder s = new StringBuilder(line("fleet"));
     for (int i = 1; i < 6; i++) s.append(';').append(line("fleet"));
-    Check.tell(one, s.toString());
-    log.append("THE TEXT of both: ").append(s).append('\n');
-    for (int i = 0; i < s.length(); i += 4) {
-      int v = 0;
-      for (int k = 0; k < 4; k++) v = v << 8 | (i + k < s.length() ? s.charAt(i + k) : 0);
-      other.sign(v);
-    }
-    other.end(s.length());
+    signs(s.toString());
+    both("end", s.length());
     both("fleet");
     for (int i = 0; i < 8; i++) {
       both("sign", ('a' + random.nextInt(6)) << 24 | of("123456789") << 16);
@@ -205,14 +206,15 @@ public final class RandomRunsTest {
 
   private void lookAtAll() {
     for (int i = -1; i <= 13; i++) both("count", i);
-    for (int i = -1; i <= one.count(11); i++) both("row", i);
-    for (int b = -1; b <= one.count(0); b++) for (int k = -1; k <= 7; k++) both("boat", b, k);
-    for (int g = -1; g <= one.count(1); g++) for (int k = -1; k <= 8; k++) both("gull", g, k);
-    for (int l = -1; l <= one.count(2); l++) for (int k = -1; k <= 3; k++) both("letter", l, k);
+    for (int i = -1; i <= other.count(11); i++) both("row", i);
+    for (int b = -1; b <= other.count(0); b++) for (int k = -1; k <= 7; k++) both("boat", b, k);
+    for (int g = -1; g <= other.count(1); g++) for (int k = -1; k <= 8; k++) both("gull", g, k);
+    for (int l = -1; l <= other.count(2); l++) for (int k = -1; k <= 3; k++) both("letter", l, k);
     for (int j = 0; j <= 4; j++) for (int i = -1; i <= 12; i++) both("slip", j, i);
   }
 
-  private void run(int calls) {
+  /** A look at all has 330 calls at most. */
+  private void run() {
     int before = wrong;
     int start = random.nextInt(10);
     if (start < 4) {
@@ -223,21 +225,23 @@ public final class RandomRunsTest {
       tell("gulls");
       tell("gulls");
     }
-    for (int i = 0; i < calls && wrong == before; i++) {
+    int last = random.nextInt(4) == 0 ? 182 : 512;
+    while (calls < last && wrong == before) {
       int k = random.nextInt(10);
       if (k < 5) call(ACTS[random.nextInt(ACTS.length)]);
       else if (k < 9) call(QUESTIONS[random.nextInt(QUESTIONS.length)]);
       else if (random.nextInt(3) > 0) tell(TEXTS[random.nextInt(3)]);
       else tell(TEXTS[random.nextInt(TEXTS.length)]);
-      for (int r = 0; r <= one.count(11); r++) both("row", r);
-      if (i % 8 == 0) lookAtAll();
+      // an act leaves the row, as a look now and then tells
+      if (k >= 5 || random.nextInt(6) == 0) for (int r = 0; r <= other.count(11); r++) both("row", r);
     }
+    lookAtAll();
   }
 
   public static void main(String[] args) {
-    int runs = args.length > 0 ? Integer.parseInt(args[0]) : 300;
+    int runs = args.length > 0 ? Integer.parseInt(args[0]) : 800;
     long first = args.length > 1 ? Long.parseLong(args[1]) : 1;
-    for (int i = 0; i < runs && wrong == 0; i++) new RandomRunsTest(first + i).run(80);
+    for (int i = 0; i < runs && wrong == 0; i++) new RandomRunsTest(first + i).run();
     if (args.length > 0) System.out.println(asked);
     System.out.println(wrong == 0 ? "random runs: all answers alike" : "random runs: " + wrong + " wrong");
     if (wrong > 0) System.exit(1);

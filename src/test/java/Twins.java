@@ -49,7 +49,7 @@ public final class Twins {
 
   private static String boats(OneGullToABoat x) {
     StringBuilder s = new StringBuilder();
-    for (int b = 0; b < x.count(0); b++) {
+    for (int b = 0, n = x.count(0); b < n; b++) {
       for (int what = 0; what < 7; what++) s.append(x.boat(b, what)).append(what < 6 ? ' ' : ';');
     }
     return s.toString();
@@ -57,7 +57,7 @@ public final class Twins {
 
   private static String gulls(OneGullToABoat x) {
     StringBuilder s = new StringBuilder();
-    for (int g = 0; g < x.count(1); g++) {
+    for (int g = 0, n = x.count(1); g < n; g++) {
       for (int what = 0; what < 8; what++) s.append(x.gull(g, what)).append(what < 7 ? ' ' : ';');
     }
     return s.toString();
@@ -65,7 +65,7 @@ public final class Twins {
 
   private static String letters(OneGullToABoat x) {
     StringBuilder s = new StringBuilder();
-    for (int l = 0; l < x.count(2); l++) {
+    for (int l = 0, n = x.count(2); l < n; l++) {
       for (int what = 0; what < 3; what++) s.append(x.letter(l, what)).append(what < 2 ? ' ' : ';');
     }
     return s.toString();
@@ -73,7 +73,7 @@ public final class Twins {
 
   public static String row(OneGullToABoat x) {
     StringBuilder s = new StringBuilder();
-    for (int i = 0; i < x.count(11); i++) s.append(x.row(i)).append(' ');
+    for (int i = 0, n = x.count(11); i < n; i++) s.append(x.row(i)).append(' ');
     return s.toString();
   }
 
@@ -88,18 +88,19 @@ public final class Twins {
     return s.toString();
   }
 
+  /** In few calls: an object answers 512. */
   private static String shortly(OneGullToABoat x) {
     StringBuilder s = new StringBuilder();
-    for (int what : new int[] {2, 3, 6, 7, 8, 10}) s.append(x.count(what)).append(' ');
-    for (int b = 0; b < x.count(0); b++) s.append(x.boat(b, 4)).append(x.boat(b, 5)).append(' ');
-    for (int g = 0; g < x.count(1); g++) s.append(x.gull(g, 3)).append(' ');
+    for (int what : new int[] {2, 3, 6, 7, 8}) s.append(x.count(what)).append(' ');
+    for (int b = 0; b < 3; b++) s.append(x.boat(b, 4)).append(x.boat(b, 5)).append(' ');
+    for (int g = 0; g < 4; g++) s.append(x.gull(g, 3)).append(' ');
     return s.toString();
   }
 
   /** THE RULE, as far as the gulls that fly or rest tell it. */
   private static String flown(OneGullToABoat x) {
     StringBuilder s = new StringBuilder();
-    for (int g = 0; g < x.count(1) && g < 4; g++) {
+    for (int g = 0; g < 4; g++) {
       int far = x.heads(g);
       s.append(far).append(' ').append(far >= 0 ? row(x) : "").append(x.would(g)).append(' ');
     }
@@ -113,7 +114,7 @@ public final class Twins {
     for (int j = 1; j <= 3; j++) s.append(" slip ").append(x.slip(j, 0)).append(' ').append(x.slip(j, 1));
     for (int i = 0; i < 13; i++) s.append("\n undo ").append(x.undo()).append(": ").append(shortly(x));
     for (int i = 1; i >= 0; i--) s.append("\n again ").append(x.again(i)).append(": ").append(shortly(x));
-    return s.append(now(x)).toString();
+    return s.append(letters(x)).toString();
   }
 
   public static long thrown(Call call, OneGullToABoat x) {
