@@ -611,6 +611,10 @@ public final class EdgeAheadTest {
     OneGullToABoat none = Check.sea("1,1-0;2,2-0", "a1");
     c.is("33: no letters", none.thief(60), 0);
     c.row("33: no letters", none, 0, 0);
+    OneGullToABoat boats = new OneGullToABoat();
+    Check.fleet(boats, "1,1-0;2,2-0");
+    c.is("33: no gulls", boats.thief(60), 0);
+    c.row("33: no gulls", boats, 0, 0);
   }
 
   private static void thiefWhich() {
@@ -633,6 +637,23 @@ public final class EdgeAheadTest {
     y.send(1, 1);
     c.is("33: brought astray, nobody with chum", y.thief(1), 0);
     c.row("33: brought astray", y, 1, 2);
+    // one gull, the last of ten letters; the first lies on that deck already
+    OneGullToABoat w = Check.sea("0,3-0;15,15-1", "b1");
+    Check.rule(w, "3");
+    for (int i = 0; i < 10; i++) w.write(1);
+    for (int i = 0; i <= 9; i += 9) {
+      w.chum(0, 1);
+      w.sheet(2, 1, 6, 0);
+      w.send(0, i);
+      w.chum(0, 0);
+      c.is("33: letter " + i, w.thief(1), 0);
+      c.row("33: letter " + i, w, 1, 0);
+      w.chum(0, 1);
+      c.is("33: letter " + i + ", chum as it is now", w.thief(1), 0);
+      c.row("33: letter " + i + ", chum as it is now", w, 1, 1);
+      w.half();
+    }
+    c.is("33: both on the deck", w.boat(0, 6), 513);
     // ten letters that lie on decks already are not stolen anew
     OneGullToABoat z = Check.sea("0,0-0;9,9-1", "a9");
     for (int i = 0; i < 10; i++) z.write(1);
@@ -646,6 +667,19 @@ public final class EdgeAheadTest {
     OneGullToABoat none = new OneGullToABoat();
     c.is("34: no gulls", none.astray(), 0);
     c.row("34: no gulls", none, 0);
+    // one of two that flies, and a hull that is not the number of the boat
+    for (int g = 0; g < 2; g++) {
+      OneGullToABoat y = Check.sea("9,0-1;1,1-0", "a1;a2");
+      y.send(g, -1);
+      c.is("34: to its own", y.astray(), 0);
+      c.row("34: to its own", y, 0);
+      y.weather(1, 1);
+      c.is("34: gull " + g, y.astray(), 1 << g);
+      y.weather(1, 0);
+      y.paint(0, 5);
+      c.is("34: ashore, gull " + g, y.astray(), 0);
+      c.row("34: ashore, gull " + g, y, 1 << g);
+    }
     OneGullToABoat x = Check.sea("9,0-0;0,9-1;1,1-2", "a1;a2;a3;a4;b1;b2;b3;b4");
     for (int g = 0; g < 8; g++) x.send(g, -1);
     c.is("34: to their own", x.astray(), 0);

@@ -75,6 +75,10 @@ public final class EdgeKeptTest {
     Check.gulls(six, "f1;f1;f1");
     c.is("37: of equal ones the first", six.lonely(), 0);
     c.row("37: of equal ones the first", six, 1, 1, 1, 1, 1, 3);
+    // by boats, not by hulls
+    OneGullToABoat hulls = Check.sea("1,1-2;2,2-2;3,3-0", "a1;b1;b1");
+    c.is("37: by boats", hulls.lonely(), 2);
+    c.row("37: by boats", hulls, 1, 2, 0);
     OneGullToABoat all = Check.sea("1,1-0;2,2-1", "a1;a1;a1;a1;a1;a1;a1;a1");
     c.is("37: eight for one", all.lonely(), 1);
     c.row("37: eight for one", all, 8, 0);
@@ -114,6 +118,10 @@ public final class EdgeKeptTest {
     none.ring(0);
     for (int n = 1; n <= 8; n++) c.is("38: no boats", none.train(n, 5), -1);
     c.row("38: no boats, the row stays", none, 0);
+    OneGullToABoat boats = new OneGullToABoat();
+    Check.fleet(boats, "1,1-0;2,2-0");
+    c.is("38: no gulls yet", boats.train(3, 10), 10000);
+    c.row("38: no gulls yet", boats, 1, 2);
     OneGullToABoat one = Check.sea("1,1-0", "a1;a1;a1");
     // a half lives on: 1 less a half to the n, cut
     int[] halfLive = {5000, 7500, 8750, 9375, 9687, 9843, 9921, 9960};
@@ -476,6 +484,17 @@ public final class EdgeKeptTest {
   }
 
   private static void keepEmpty() {
+    // each number for itself, also where nobody can have come since
+    for (int i = 0; i <= 1; i++) {
+      OneGullToABoat y = new OneGullToABoat();
+      y.half();
+      y.keep(i);
+      y.half();
+      c.is("44: nothing kept under the other", y.again(1 - i), false);
+      c.is("44: now", y.count(3), 2);
+      c.is("44: kept", y.again(i), true);
+      c.is("44: now", y.count(3), 1);
+    }
     OneGullToABoat x = new OneGullToABoat();
     c.is("43: nothing there", x.keep(0), true);
     x.halves(9);

@@ -518,6 +518,9 @@ public final class EdgeSeaTest {
       c.is("17: 0 then", x.gull(1, 3), 0);
       c.is("17: another gull is left alone", x.gull(0, 3), h);
     }
+    x.sheet(2, 2, 3, 4);
+    c.is("17: its own hunger", x.feed(1), 7);
+    c.is("17: its own hunger", x.feed(0), 3);
     x.send(1, -1);
     x.sheet(2, 2, 9, 0);
     x.paint(5, 0);
@@ -633,6 +636,12 @@ public final class EdgeSeaTest {
     c.is("20: an empty one", Check.day(x, ""), 0);
     c.row("20: an empty one", x, 0, 0);
     c.is("20: an empty one is nothing to undo", x.count(10), 3);
+    // c of a boat that no gull has the number of
+    OneGullToABoat y = Check.sea("4,3-0;5,5-1;6,6-2", "a9");
+    c.is("20: cc", Check.day(y, "cc;cb;cb"), 3);
+    c.is("20: cc", y.boat(2, 5), 1);
+    c.is("20: cb twice", y.boat(1, 5), 0);
+    c.is("20: cd", Check.day(y, "cd"), 0);
     // c turns it each time
     c.is("20: c", Check.day(x, "ca;ca;ca"), 3);
     c.is("20: out", x.boat(0, 5), 1);
